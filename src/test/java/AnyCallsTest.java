@@ -83,7 +83,7 @@ public final class AnyCallsTest {
             try {
                 answer = one(x, i);
             } catch (IndexOutOfBoundsException | IllegalArgumentException | IllegalStateException e) {
-                CHECK.due("thrown by the class itself: " + e, isThrownByTheClass(e), true);
+                CHECK.due("thrown by the class itself: " + e, Check.isThrownByTheClass(e), true);
                 answer = e.getClass().getName().length();
             }
             all = all * 31 + answer;
@@ -93,13 +93,6 @@ public final class AnyCallsTest {
         }
         holds(x);
         return all * 31 + Check.answersOf(x).hashCode();
-    }
-
-    /** What the machine throws is of a class below these, or comes out of the library. */
-    private static boolean isThrownByTheClass(RuntimeException e) {
-        boolean isPlain = e.getClass() == IndexOutOfBoundsException.class
-                || e.getClass() == IllegalArgumentException.class || e.getClass() == IllegalStateException.class;
-        return isPlain && e.getStackTrace()[0].getClassName().equals("BrambleMesh");
     }
 
     private static void holds(BrambleMesh x) {

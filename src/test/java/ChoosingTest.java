@@ -173,6 +173,74 @@ public final class ChoosingTest {
         dueBreaker(x, "HALF as told", CLIENT, 0, BrambleMesh.HALF);
     }
 
+    /** Also one that was made ahead of those that opened it. */
+    private static void promise21OldTriesAreOutAsWell() {
+        BrambleMesh x = meshOf(0, 1, 0);
+        x.work(0, 15);
+        x.request(0, true, 50);
+        x.fault(0, BrambleMesh.DOWN, 1);
+        for (int i = 0; i < 3; i++) {
+            x.request(0, true, 50);
+        }
+        x.fault(0, BrambleMesh.DOWN, 0);
+        x.pass(10);
+        dueBreaker(x, "HALF", CLIENT, 0, BrambleMesh.HALF);
+        CHECK.due("call 0 is out", x.call(0, 2), BrambleMesh.RUNNING);
+        CHECK.due("so it can not be chosen", chosenBy(x, 0), NONE);
+    }
+
+    /** A try whose end is known is not out, though nobody has looked at it yet. */
+    private static void promise21KnownEndsAreNotOut() {
+        BrambleMesh x = meshOf(0, 1, 0);
+        x.fault(0, BrambleMesh.DOWN, 1);
+        for (int i = 0; i < 3; i++) {
+            x.request(0, true, 50);
+        }
+        x.fault(0, BrambleMesh.DOWN, 0);
+        x.instance(0, 0, 1, 9, 9, 0);
+        x.pass(9);
+        x.fault(1, BrambleMesh.SLOW, 2);
+        x.fault(1, BrambleMesh.WRONG, 1);
+        x.policy(ALL, ALL, BrambleMesh.RETRIES, 1);
+        x.request(0, true, 50);
+        x.pass(2);
+        CHECK.due("a try that is out", chosenBy(x, 0), 0);
+        x.pass(1);
+        CHECK.due("both end, the request with the lower number goes on first", x.call(3, 2) * 10 + x.call(4, 2), 43);
+        CHECK.due("it tries where the other one has just ended", x.call(5, 5) * 10 + x.call(5, 1), 30);
+    }
+
+    /** A step of a call that has gone OFF is over, also if the reply to its try is lost. */
+    private static void promise21StepsOfCallsThatHaveEndedAreOver() {
+        BrambleMesh x = new BrambleMesh();
+        x.policy(ALL, ALL, BrambleMesh.RETRIES, 0);
+        x.instance(0, 0, 1, 9, 9, 0);
+        x.instance(0, 0, 1, 9, 9, 0);
+        x.instance(1, 0, 1, 9, 9, 0);
+        x.step(0, 1, true, NONE);
+        x.fault(2, BrambleMesh.DOWN, 1);
+        for (int i = 0; i < 3; i++) {
+            x.request(0, true, 50);
+        }
+        x.pass(1);
+        dueBreaker(x, "OPEN", 0, 2, BrambleMesh.OPEN);
+        x.pass(10);
+        x.fault(2, BrambleMesh.DOWN, 0);
+        x.fault(2, BrambleMesh.LOST, 1);
+        x.instance(1, 1, 1, 9, 9, 0);
+        x.policy(CLIENT, 0, BrambleMesh.HEDGE, 1);
+        x.request(0, true, 50);
+        x.pass(3);
+        CHECK.due("the try of the first one", x.call(7, 1), 2);
+        CHECK.due("the request is done by the hedge", x.requestState(3), BrambleMesh.OK);
+        CHECK.due("the first one is OFF", x.call(6, 2), BrambleMesh.OFF);
+        dueBreaker(x, "HALF", 0, 2, BrambleMesh.HALF);
+        x.request(0, true, 50);
+        int calls = x.calls();
+        x.pass(1);
+        CHECK.due("not out, and of less burden than another zone", x.call(calls, 1), 2);
+    }
+
     private static void promise22Shunned() {
         BrambleMesh x = meshOf(0, 1, 0);
         CHECK.refused("shunned: -1", x, Check.NO_SUCH, () -> x.isShunned(-1));
@@ -262,6 +330,10 @@ public final class ChoosingTest {
     }
 
     private static void promise23TheLeastBurden() {
+        BrambleMesh y = meshOf(0, 1, 0, 0, 9, 0);
+        CHECK.due("nothing there, the lowest", chosenBy(y, 0), 0);
+        y.pass(5);
+        CHECK.due("nothing there again", chosenBy(y, 0), 0);
         BrambleMesh x = meshOf(0, 2, 0, 0, 3, 0, 0, 1, 0);
         int[] due = {0, 1, 2, 1, 0, 1, 0, 1, 2, 1, 0};
         for (int i = 0; i < due.length; i++) {
@@ -300,6 +372,23 @@ public final class ChoosingTest {
         CHECK.due("the client goes to the other", chosenBy(x, 1), 3);
     }
 
+    /** Tries of a service count till the load is told. */
+    private static void promise23TriesOfAServiceSinceItWasTold() {
+        BrambleMesh x = meshOf(0, 1, 0);
+        x.instance(1, 0, 1, 9, 9, 0);
+        x.instance(1, 0, 1, 9, 9, 0);
+        x.step(0, 1, true, NONE);
+        x.request(0, true, 20);
+        x.pass(5);
+        CHECK.due("the first one", x.call(1, 1), 1);
+        x.request(0, true, 20);
+        x.pass(1);
+        CHECK.due("the first one, told as 0 since", x.call(3, 1), 1);
+        x.request(0, true, 20);
+        x.pass(1);
+        CHECK.due("the other one, as nothing was told since", x.call(5, 1), 2);
+    }
+
     private static void promise23Zones() {
         BrambleMesh x = meshOf(1, 1, 0, 0, 1, 0);
         CHECK.due("the zone of the client is 0", chosenBy(x, 0), 1);
@@ -323,6 +412,11 @@ public final class ChoosingTest {
         CHECK.due("150 and 150, the lowest", chosenBy(x, 0), 0);
         CHECK.due("150 or 161", chosenBy(x, 0), 1);
         CHECK.due("200 or 161", chosenBy(x, 0), 0);
+        BrambleMesh z = meshOf(0, 2, 0, 1, 9, 0);
+        for (int i = 0; i < 4; i++) {
+            CHECK.due("150 and 150, the one in the zone", chosenBy(z, 0), 0);
+        }
+        CHECK.due("200 or 150", chosenBy(z, 0), 1);
         BrambleMesh y = meshOf(0, 3, 0, 0, 3, 0, 0, 6, 0);
         int[] due = {0, 1, 2, 2, 0};
         for (int i = 0; i < due.length; i++) {
@@ -355,6 +449,9 @@ public final class ChoosingTest {
         x.canary(0, 50);
         CHECK.due("counted anew, 1", chosenBy(x, 0), 0);
         CHECK.due("counted anew, 2", chosenBy(x, 0), 1);
+        CHECK.due("counted on, 3", chosenBy(x, 0), 0);
+        x.canary(0, 50);
+        CHECK.due("counted anew, behind 3", chosenBy(x, 0), 0);
         x.canary(0, 100);
         CHECK.due("all", chosenBy(x, 0) + chosenBy(x, 0) + chosenBy(x, 0), 3);
         x.canary(0, 0);
@@ -378,7 +475,7 @@ public final class ChoosingTest {
         x.canary(0, 100);
         CHECK.due("another version, if there is none of that", chosenBy(x, 0), 0);
         CHECK.due("by its burden", chosenBy(x, 0), 1);
-        BrambleMesh y = meshOf(0, 1, 1, 0, 1, 0);
+        BrambleMesh y = meshOf(0, 1, 1, 1, 1, 0);
         y.canary(0, 100);
         y.policy(ALL, ALL, BrambleMesh.RETRIES, 1);
         y.fault(0, BrambleMesh.WRONG, 1);
@@ -452,6 +549,60 @@ public final class ChoosingTest {
         CHECK.due("0 of 3 not OK", x.canaryShare(0), 60);
     }
 
+    /** Ends at the version 1, as in shareBehind, with a share that is set anew in between. */
+    private static int shareBehindTwo(String ends, String endsThen) {
+        BrambleMesh x = new BrambleMesh();
+        x.policy(ALL, ALL, BrambleMesh.RETRIES, 0);
+        x.instance(0, 0, 1, 9, 9, 0);
+        x.instance(0, 0, 1, 9, 9, 1);
+        x.canary(0, 100);
+        makeEnds(x, ends);
+        x.canary(0, 90);
+        CHECK.due("an old one, as the first try", chosenBy(x, 0), 0);
+        makeEnds(x, endsThen);
+        return x.canaryShare(0);
+    }
+
+    private static void makeEnds(BrambleMesh x, String ends) {
+        for (int i = 0; i < ends.length(); i++) {
+            x.fault(1, BrambleMesh.WRONG, ends.charAt(i) == 'X' ? 1 : 0);
+            CHECK.due("the version", chosenBy(x, 0), 1);
+            x.pass(1);
+        }
+    }
+
+    private static void promise24BothCountsAre0Behind() {
+        CHECK.due("2 not OK of 5, anew", shareBehindTwo("", "AAXAX"), 0);
+        CHECK.due("2 not OK are not counted any more", shareBehindTwo("XX", "AAAAA"), 90);
+        CHECK.due("4 are not counted any more", shareBehindTwo("AAAA", "AXAX"), 90);
+        BrambleMesh x = meshOf(0, 1, 1);
+        x.canary(0, 50);
+        x.instance(0, 0, 1, 9, 9, 0);
+        CHECK.due("one of the version 0", chosenBy(x, 0), 1);
+        x.pass(1);
+        x.canary(0, 100);
+        for (int i = 0; i < 5; i++) {
+            x.fault(0, BrambleMesh.WRONG, i % 2);
+            CHECK.due("of the version 1", chosenBy(x, 0), 0);
+            x.pass(1);
+        }
+        CHECK.due("it is not counted any more", x.canaryShare(0), 100);
+        x.canary(0, 90);
+        x.fault(1, BrambleMesh.WRONG, 1);
+        CHECK.due("one of the version 0 that is not OK", chosenBy(x, 0), 1);
+        x.pass(1);
+        x.canary(0, 99);
+        CHECK.due("and one that is", chosenBy(x, 0), 1);
+        x.fault(1, BrambleMesh.WRONG, 0);
+        x.pass(1);
+        for (int i = 0; i < 5; i++) {
+            x.fault(0, BrambleMesh.WRONG, i % 2);
+            CHECK.due("of the version 1 again", chosenBy(x, 0), 0);
+            x.pass(1);
+        }
+        CHECK.due("just the one that is counts", x.canaryShare(0), 0);
+    }
+
     /** Ends count as they are known: what is lost is LATE. */
     private static void promise24WhatIsLostIsNotOk() {
         BrambleMesh x = meshOf(0, 1, 0, 0, 1, 1);
@@ -481,6 +632,9 @@ public final class ChoosingTest {
         promise21TriesOfStepsThatAreOverAreNotOut();
         promise21LostTriesAreOut();
         promise21NoneCountWhileItIsOpen();
+        promise21OldTriesAreOutAsWell();
+        promise21KnownEndsAreNotOut();
+        promise21StepsOfCallsThatHaveEndedAreOver();
         promise22Shunned();
         promise22ManyEyes();
         promise22ThreeEyesAtFirst();
@@ -488,6 +642,7 @@ public final class ChoosingTest {
         promise23TheLeastBurden();
         promise23LoadsAreToldAndOld();
         promise23TriesOfOthersDoNotCount();
+        promise23TriesOfAServiceSinceItWasTold();
         promise23Zones();
         promise23RoundedDown();
         promise23WhereTheStepWasNot();
@@ -496,6 +651,7 @@ public final class ChoosingTest {
         promise24AVersionThatIsNotThere();
         promise24Judge();
         promise24WhatIsCountedIs0Behind();
+        promise24BothCountsAre0Behind();
         promise24WhatIsLostIsNotOk();
         CHECK.end();
     }

@@ -219,6 +219,35 @@ public final class RepairsTest {
         dueRepairs(x, "made", 1, 1);
     }
 
+    /** The version of the call of a repair that has so many tries, the earlier ones without an instance, with a share of 1. */
+    private static int versionOfTry(int tries) {
+        BrambleMesh x = new BrambleMesh();
+        x.policy(ALL, ALL, BrambleMesh.RETRIES, 0);
+        x.instance(0, 0, 1, 9, 9, 0);
+        x.instance(1, 0, 1, 9, 9, 0);
+        x.step(0, 1, true, 5);
+        x.fault(1, BrambleMesh.WRONG, 1);
+        x.canary(5, 1);
+        x.request(0, true, 20);
+        x.pass(1);
+        for (int i = 1; i < tries; i++) {
+            x.pass(1);
+        }
+        x.instance(5, 0, 1, 9, 9, 0);
+        x.instance(5, 0, 1, 9, 9, 1);
+        x.pass(1);
+        return x.call(2, 1) - 2;
+    }
+
+    private static void promise24AShareOf1() {
+        CHECK.due("try 98", versionOfTry(98), 0);
+        CHECK.due("try 99", versionOfTry(99), 0);
+        CHECK.due("try 100", versionOfTry(100), 1);
+        CHECK.due("try 101", versionOfTry(101), 0);
+        CHECK.due("try 199", versionOfTry(199), 0);
+        CHECK.due("try 200", versionOfTry(200), 1);
+    }
+
     /** Three tries that fail open the breaker of the service of the call. */
     private static void promise25BreakersCountRepairs() {
         BrambleMesh x = wideMesh();
@@ -331,6 +360,7 @@ public final class RepairsTest {
         promise25WhatGoesOffIsUndone();
         promise25ItGoesOnUntilItIsMade();
         promise25TriesWithoutAnInstance();
+        promise24AShareOf1();
         promise25BreakersCountRepairs();
         promise25TheDeadlineIsTheTimeout();
         promise25LostRepairs();

@@ -156,6 +156,15 @@ public final class RequestsTest {
         CHECK.due("by the tail, FAILED at once", x.isKept(5), true);
     }
 
+    private static void promise16TicksSinceItWasMade() {
+        BrambleMesh x = wideMesh();
+        x.request(1, true, 20);
+        x.pass(40);
+        x.request(1, true, 20);
+        x.pass(2);
+        CHECK.due("1 tick, though late in time", x.isKept(1), false);
+    }
+
     private static void promise16TheLimitAtFirst() {
         BrambleMesh x = wideMesh();
         x.policy(ALL, ALL, BrambleMesh.TIMEOUT, 100);
@@ -276,6 +285,7 @@ public final class RequestsTest {
         promise14StatesOfRequests();
         promise15TicksOfRequests();
         promise16TracesKept();
+        promise16TicksSinceItWasMade();
         promise16TheLimitAtFirst();
         promise17CallsOfRequests();
         promise17RepairsAreOfNoRequest();

@@ -88,6 +88,7 @@ public final class SettingsTest {
         BrambleMesh x = new BrambleMesh();
         CHECK.refused("step: service -1", x, Check.NO_SUCH, () -> x.step(-1, 1, true, NONE));
         CHECK.refused("step: service 6", x, Check.NO_SUCH, () -> x.step(6, 7, true, NONE));
+        CHECK.refused("step: service 6 calls one that is there", x, Check.NO_SUCH, () -> x.step(6, 5, true, NONE));
         CHECK.refused("step: called -1", x, Check.NO_SUCH, () -> x.step(0, -1, true, NONE));
         CHECK.refused("step: called 6", x, Check.NO_SUCH, () -> x.step(0, 6, true, NONE));
         CHECK.refused("step: undo -2", x, Check.NO_SUCH, () -> x.step(0, 1, true, -2));
@@ -231,7 +232,7 @@ public final class SettingsTest {
         BrambleMesh x = new BrambleMesh();
         int[] least = {1, 0, 0};
         int[] most = {100, 3, 50};
-        int[][] places = {{ALL, ALL}, {ALL, 0}, {ALL, 5}, {0, 5}, {CLIENT, 0}, {6, 5}, {5, 0}};
+        int[][] places = {{ALL, ALL}, {ALL, 0}, {ALL, 5}, {0, 0}, {0, 5}, {CLIENT, 0}, {6, 5}, {5, 0}};
         for (int part = 0; part <= 2; part++) {
             for (int[] place : places) {
                 int caller = place[0];

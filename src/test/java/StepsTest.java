@@ -201,6 +201,42 @@ public final class StepsTest {
         CHECK.due("the request", x.requestState(0), BrambleMesh.OK);
     }
 
+    /** The other try of a step that is done goes OFF also ahead of the next step. */
+    private static void promise26OffAheadOfTheNextStep() {
+        BrambleMesh x = meshOf(1);
+        x.instance(1, 0, 1, 9, 9, 0);
+        x.instance(1, 0, 1, 9, 9, 0);
+        x.step(0, 1, true, NONE);
+        x.step(0, 1, true, NONE);
+        x.policy(0, 1, BrambleMesh.HEDGE, 2);
+        x.work(1, 5);
+        x.request(0, true, 40);
+        x.pass(3);
+        CHECK.due("a hedge", x.call(2, 2), BrambleMesh.RUNNING);
+        x.pass(3);
+        CHECK.due("the next step", x.call(0, 6), 2);
+        CHECK.due("done", x.call(1, 2), BrambleMesh.OK);
+        CHECK.due("not needed any more", x.call(2, 2), BrambleMesh.OFF);
+    }
+
+    /** A hedge that is refused is looked at as it is made, though the first try is out. */
+    private static void promise26AHedgeThatIsRefused() {
+        BrambleMesh x = meshOf(1);
+        x.policy(CLIENT, 0, BrambleMesh.HEDGE, 1);
+        x.fault(0, BrambleMesh.SLOW, 9);
+        for (int i = 0; i < 3; i++) {
+            x.request(0, true, 40);
+        }
+        x.fault(0, BrambleMesh.DOWN, 1);
+        x.pass(1);
+        CHECK.due("three hedges", x.calls(), 6);
+        CHECK.due("refused", x.call(3, 2) * 100 + x.call(4, 2) * 10 + x.call(5, 2), 666);
+        CHECK.due("looked at at once", x.breaker(CLIENT, 0), BrambleMesh.OPEN);
+        CHECK.due("the first tries go on", x.requestState(0), BrambleMesh.GOING);
+        x.pass(9);
+        CHECK.due("and are done", x.requestState(0), BrambleMesh.OK);
+    }
+
     private static void promise26NoHedgeBehindARetry() {
         BrambleMesh x = meshOf(3);
         x.policy(CLIENT, 0, BrambleMesh.HEDGE, 2);
@@ -322,6 +358,8 @@ public final class StepsTest {
         promise26Hedge();
         promise26AHedgeThatEndsFirst();
         promise26AHedgeIsNoRetry();
+        promise26OffAheadOfTheNextStep();
+        promise26AHedgeThatIsRefused();
         promise26NoHedgeBehindARetry();
         promise26AHedgeWithoutMoney();
         promise26EndsInTheOrderOfTries();
