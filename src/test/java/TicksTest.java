@@ -97,6 +97,20 @@ public final class TicksTest {
         CHECK.due("the later one is OK", x.requestState(1), BrambleMesh.OK);
     }
 
+    /** 3: a call without steps ends there, so that its slot is free for those that go on in 4. */
+    private static void promise12WithoutStepsItEndsAheadOfSteps() {
+        BrambleMesh x = new BrambleMesh();
+        x.policy(ALL, ALL, BrambleMesh.RETRIES, 0);
+        x.instance(0, 0, 1, 9, 9, 0);
+        x.instance(1, 0, 1, 1, 0, 0);
+        x.step(0, 1, true, NONE);
+        x.request(1, true, 30);
+        x.request(0, true, 30);
+        x.pass(1);
+        CHECK.due("its slot is taken by another call", x.call(2, 2), BrambleMesh.RUNNING);
+        CHECK.due("it is OK", x.requestState(0), BrambleMesh.OK);
+    }
+
     /** 5 by rising numbers, behind 4: calls take slots ahead of requests, requests ahead of repairs. */
     private static void promise12CallsThenRequestsThenRepairs() {
         BrambleMesh x = new BrambleMesh();
@@ -248,6 +262,7 @@ public final class TicksTest {
         promise12EndsGoUpInOneTick();
         promise12TheNextStepAtOnce();
         promise12CallsByFallingNumbers();
+        promise12WithoutStepsItEndsAheadOfSteps();
         promise12CallsThenRequestsThenRepairs();
         promise12SlotsThatAreFree();
         promise12TheQueueInOrder();
