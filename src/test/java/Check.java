@@ -6,12 +6,32 @@ final class Check {
 
     private int checked;
     private int wrong;
+    private String about = "";
+    private int checkedAhead;
+
+    /** The checks from here on are about this sentence of the document, which is of the promise with this number. */
+    void sentence(int promise, String words) {
+        endSentence();
+        about = "promise " + promise + ", \"" + words + "\": ";
+        checkedAhead = checked;
+    }
+
+    /** A sentence that nothing is checked of is not tested. */
+    private void endSentence() {
+        if (!about.isEmpty() && checked == checkedAhead) {
+            say("there is no check");
+        }
+    }
+
+    private void say(String what) {
+        wrong++;
+        System.out.println(about + what);
+    }
 
     void due(String what, long got, long want) {
         checked++;
         if (got != want) {
-            wrong++;
-            System.out.println(what + ": got " + got + ", due is " + want);
+            say(what + ": got " + got + ", due is " + want);
         }
     }
 
@@ -30,23 +50,26 @@ final class Check {
         }
         checked++;
         if (thrown != due) {
-            wrong++;
-            System.out.println(what + ": threw " + thrown + ", due is " + due);
+            say(what + ": threw " + thrown + ", due is " + due);
         }
         checked++;
         if (!before.equals(answersOf(mesh))) {
-            wrong++;
-            System.out.println(what + ": changed something");
+            say(what + ": changed something");
         }
     }
 
     /** What the machine throws is of a class below these, or comes out of the library. */
     static boolean isThrownByTheClass(RuntimeException e) {
         boolean isPlain = e.getClass() == NO_SUCH || e.getClass() == BAD || e.getClass() == NOT_NOW;
-        return isPlain && e.getStackTrace()[0].getClassName().equals("BrambleMesh");
+        return isPlain && e.getStackTrace()[0].getClassName().startsWith("BrambleMesh");
+    }
+
+    boolean isFine() {
+        return wrong == 0;
     }
 
     void end() {
+        endSentence();
         System.out.println(checked + " checks, " + wrong + " wrong");
         if (wrong != 0) {
             System.exit(1);
