@@ -227,6 +227,34 @@ public final class EdgesOfChoosingTest {
         CHECK.due("not out", chosenBy(y, 0), 0);
     }
 
+    /** A call that has gone OFF has a step whose try's reply is lost: that is over, ahead of the try's deadline. */
+    private static void stepsOfCallsThatHaveEnded() {
+        CHECK.sentence(21, "(those of steps that are over are not (out): a step of a call that has ended)");
+        BrambleMesh x = meshOf(0, 1, 0, 0, 1, 0);
+        x.instance(1, 0, 1, 9, 9, 0);
+        x.step(0, 1, true, NONE);
+        x.fault(2, DOWN, 1);
+        for (int i = 0; i < 3; i++) {
+            x.request(0, true, 50);
+        }
+        x.pass(1);
+        CHECK.due("OPEN", x.breaker(0, 2), OPEN);
+        x.pass(10);
+        x.fault(2, DOWN, 0);
+        x.fault(2, LOST, 1);
+        x.instance(1, 1, 1, 9, 9, 0);
+        x.policy(CLIENT, 0, HEDGE, 1);
+        x.request(0, true, 50);
+        x.pass(3);
+        CHECK.due("the try whose reply is lost", x.call(7, 1) * 10 + x.call(7, 2), 23);
+        CHECK.due("its call is OFF", x.call(6, 2), BrambleMesh.OFF);
+        CHECK.due("HALF", x.breaker(0, 2), HALF);
+        x.request(0, true, 50);
+        int calls = x.calls();
+        x.pass(1);
+        CHECK.due("it can be chosen", x.call(calls, 1), 2);
+    }
+
     // ---- shunned
 
     /** Service 5 has instance 0; the services 0 to 4 have one each and a step that calls it; each tries thrice, REFUSED. */
@@ -336,6 +364,49 @@ public final class EdgesOfChoosingTest {
         dueOrder("the other one", z, 1);
         z.pass(4);
         dueOrder("told since", z, 0);
+    }
+
+    /** Told 1 and 2, weights 1 and 3: 100 and 66, and with one more try there 100 and 100. */
+    private static void dividedTogether() {
+        CHECK.sentence(23, "100 times its load as told last, and the tries of this caller there since it was told, together, divided");
+        BrambleMesh x = meshOf(0, 1, 0, 0, 3, 0);
+        x.work(0, 20);
+        dueOrder("ahead of tick 5", x, 0, 1, 1);
+        x.pass(5);
+        CHECK.due("told", x.load(0, false) * 10 + x.load(1, false), 12);
+        dueOrder("66 is less than 100, then both are 100", x, 1, 0, 1, 1);
+    }
+
+    private static void ofThisCaller() {
+        CHECK.sentence(23, "the tries of this caller there (those of other callers do not count)");
+        BrambleMesh x = new BrambleMesh();
+        x.instance(0, 0, 1, 9, 9, 0);
+        x.instance(1, 0, 1, 9, 9, 0);
+        x.instance(1, 0, 1, 9, 9, 0);
+        x.step(0, 1, true, NONE);
+        x.request(0, true, 50);
+        x.pass(1);
+        CHECK.due("a try of service 0", x.call(1, 1), 1);
+        CHECK.due("the CLIENT has had none there", chosenBy(x, 1), 1);
+        CHECK.due("the CLIENT has had one there", chosenBy(x, 1), 2);
+        x.request(0, true, 50);
+        x.pass(1);
+        CHECK.due("service 0 has had one there", x.call(x.calls() - 1, 1), 2);
+        CHECK.sentence(23, "the tries of this caller there (those of its repairs as well)");
+        BrambleMesh y = new BrambleMesh();
+        y.policy(ALL, ALL, RETRIES, 0);
+        y.instance(0, 0, 1, 9, 9, 0);
+        y.instance(1, 0, 1, 9, 9, 0);
+        y.instance(5, 0, 1, 9, 9, 0);
+        y.instance(5, 0, 1, 9, 9, 0);
+        y.step(0, 1, true, 5);
+        y.fault(1, WRONG, 1);
+        y.request(0, true, 50);
+        y.request(0, true, 50);
+        y.pass(2);
+        CHECK.due("two repairs", y.repairs(false), 2);
+        CHECK.due("at the first one", y.call(4, 1), 2);
+        CHECK.due("then at the other one", y.call(5, 1), 3);
     }
 
     /** The call of service 0 at an instance of this zone; its step chooses between the zones 0, 1 and 2. */
@@ -478,6 +549,33 @@ public final class EdgesOfChoosingTest {
         dueOrder("ahead of the burden", w, 1, 1, 1);
     }
 
+    private static void noTryAheadOfTheVersion() {
+        CHECK.sentence(24, "of these, those at which the step has had no try; of these, if there are any, those of the version that is wanted");
+        BrambleMesh x = meshOf(0, 9, 1, 2, 1, 0);
+        x.canary(0, 100);
+        x.policy(CLIENT, 0, RETRIES, 2);
+        x.fault(0, WRONG, 1);
+        x.fault(1, WRONG, 1);
+        x.request(0, true, 50);
+        x.pass(2);
+        int[] due = {0, 1, 0};
+        for (int i = 0; i < due.length; i++) {
+            CHECK.due("1 is wanted, try " + i, x.call(i, 1), due[i]);
+        }
+        BrambleMesh y = meshOf(0, 9, 0, 0, 1, 1, 2, 1, 1);
+        y.canary(0, 100);
+        y.policy(CLIENT, 0, RETRIES, 2);
+        for (int i = 0; i < 3; i++) {
+            y.fault(i, WRONG, 1);
+        }
+        y.request(0, true, 50);
+        y.pass(2);
+        int[] dueOfThree = {1, 2, 0};
+        for (int i = 0; i < dueOfThree.length; i++) {
+            CHECK.due("1 is wanted, of three, try " + i, y.call(i, 1), dueOfThree[i]);
+        }
+    }
+
     private static void triesCount() {
         CHECK.sentence(24, "each try of a service counts while its canary share is above 0, also if nothing can be chosen");
         BrambleMesh x = meshOf();
@@ -583,6 +681,38 @@ public final class EdgesOfChoosingTest {
         CHECK.due("behind " + ends + " and then " + endsThen, x.canaryShare(0), due);
     }
 
+    private static void judgesCountCalls() {
+        CHECK.sentence(24, "The judge counts ends .. of calls at instances (a try that is REFUSED without a call is none)");
+        BrambleMesh x = meshOf();
+        x.canary(0, 50);
+        for (int i = 0; i < 4; i++) {
+            CHECK.due("without a call", chosenBy(x, 0), NONE);
+        }
+        x.instance(0, 0, 1, 9, 9, 0);
+        x.instance(0, 0, 1, 9, 9, 1);
+        judge(x, "aaXXAA");
+        CHECK.due("ahead of the fifth", x.canaryShare(0), 50);
+        judge(x, "A");
+        CHECK.due("two OK at the version 0 alone", x.canaryShare(0), 0);
+        CHECK.sentence(24, "The judge counts ends that are looked at (REFUSED and LATE ones are not OK)");
+        BrambleMesh y = meshOf(0, 1, 0, 0, 1, 1);
+        y.canary(0, 50);
+        judge(y, "aaAAA");
+        CHECK.due("the turn of the version 0", chosenBy(y, 0), 0);
+        y.fault(1, DOWN, 1);
+        CHECK.due("REFUSED", chosenBy(y, 0), 1);
+        y.fault(1, DOWN, 0);
+        y.pass(1);
+        CHECK.due("the turn of the version 0 again", chosenBy(y, 0), 0);
+        y.pass(1);
+        y.policy(CLIENT, 0, TIMEOUT, 1);
+        CHECK.due("the fifth of the version 1", chosenBy(y, 0), 1);
+        CHECK.due("one is not OK", y.canaryShare(0), 50);
+        y.pass(1);
+        CHECK.due("LATE", y.call(y.calls() - 1, 2), BrambleMesh.LATE);
+        CHECK.due("two are not OK", y.canaryShare(0), 0);
+    }
+
     /** Ends at the version 1 alone, till there is an instance of the version 0, at which one is OK. */
     private static void judgesOfAnyShare() {
         CHECK.sentence(24, "The judge counts ends that are looked at, of calls at instances of a service with a share above 0");
@@ -644,14 +774,19 @@ public final class EdgesOfChoosingTest {
         noneWhileItIsOpen();
         halfWithoutATryThatIsOut();
         stepsThatAreOver();
+        stepsOfCallsThatHaveEnded();
         shunned();
         leastBurden();
         toldAndOld();
+        dividedTogether();
+        ofThisCaller();
         zones();
         whereTheStepWasNot();
         versions();
+        noTryAheadOfTheVersion();
         triesCount();
         judges();
+        judgesCountCalls();
         judgesOfAnyShare();
         judgesCountAnew();
         CHECK.end();
