@@ -80,6 +80,42 @@ public final class EdgesOfLimitsTest {
         }
     }
 
+    /** Of each instance, fault, caller and service its own; what is set twice the same was that. */
+    private static void whatItWas() {
+        CHECK.sentence(5, "fault: Returns what it was. (without faults at first)");
+        BrambleMesh x = new BrambleMesh();
+        for (int i = 0; i < 12; i++) {
+            x.instance(i % 6, 0, 1, 1, 0, 0);
+        }
+        for (int round = 0; round < 3; round++) {
+            for (int i = 0; i < 12; i++) {
+                for (int what = BrambleMesh.SLOW; what <= BrambleMesh.DOWN; what++) {
+                    int value = what == BrambleMesh.SLOW ? 50 - i : (i + what) % 2;
+                    CHECK.due("fault " + what + " of " + i, x.fault(i, what, value), round == 0 ? 0 : value);
+                }
+            }
+        }
+        CHECK.sentence(7, "share: Returns what it was. (10 at first)");
+        for (int round = 0; round < 3; round++) {
+            for (int caller = 0; caller <= 6; caller++) {
+                CHECK.due("of caller " + caller, x.share(caller, 100 - caller), round == 0 ? 10 : 100 - caller);
+            }
+        }
+        CHECK.sentence(8, "eyes: Returns what it was. (3 at first)");
+        int was = 3;
+        for (int eyes = 1; eyes <= 7; eyes++) {
+            CHECK.due("told " + eyes, x.eyes(eyes), was);
+            was = eyes;
+        }
+        CHECK.sentence(9, "canary: Returns what it was. (0 at first)");
+        for (int round = 0; round < 3; round++) {
+            for (int service = 0; service <= 5; service++) {
+                CHECK.due("asked, of " + service, x.canaryShare(service), round == 0 ? 0 : 100 - service);
+                CHECK.due("of service " + service, x.canary(service, 100 - service), round == 0 ? 0 : 100 - service);
+            }
+        }
+    }
+
     private static void steps() {
         CHECK.sentence(3, "Returns how many it has then. (a plan, up to 4 steps)");
         BrambleMesh x = new BrambleMesh();
@@ -345,6 +381,29 @@ public final class EdgesOfLimitsTest {
         }
     }
 
+    private static void slotsOfThoseThatCall() {
+        CHECK.sentence(4, "A call that runs, or is calling, has a slot.");
+        for (int queue = 0; queue <= 1; queue++) {
+            BrambleMesh x = new BrambleMesh();
+            x.policy(ALL, ALL, RETRIES, 0);
+            x.instance(0, 0, 1, 1, queue, 0);
+            x.instance(1, 0, 1, 9, 0, 0);
+            x.step(0, 1, true, NONE);
+            x.work(1, 4);
+            x.request(0, true, 40);
+            x.pass(3);
+            CHECK.due("CALLING", x.call(0, 2), BrambleMesh.CALLING);
+            x.request(0, true, 40);
+            CHECK.due("no slot", x.call(2, 2), queue == 0 ? REFUSED : QUEUED);
+            x.pass(1);
+            CHECK.due("still none", x.call(2, 2), queue == 0 ? REFUSED : QUEUED);
+            x.pass(1);
+            CHECK.due("OK", x.call(0, 2), OK);
+            x.request(0, true, 40);
+            CHECK.due("a slot, unless the queue has it", x.call(3, 2), queue == 0 ? RUNNING : QUEUED);
+        }
+    }
+
     /** A slot that got free in 2 stands open till 6, while one is queued. */
     private static void nothingIsQueued() {
         CHECK.sentence(4, "it runs, if there is a slot and nothing is queued; otherwise it is queued, if there is room");
@@ -584,6 +643,7 @@ public final class EdgesOfLimitsTest {
         theTick();
         atTheLastTick();
         work();
+        whatItWas();
         steps();
         plansOfEachLength();
         instances();
@@ -592,6 +652,7 @@ public final class EdgesOfLimitsTest {
         stepsWithoutCalls();
         repairs();
         slotsAndQueues();
+        slotsOfThoseThatCall();
         nothingIsQueued();
         down();
         budgetsForRetries();

@@ -62,10 +62,12 @@ public final class FaceTest {
 
     public static void main(String[] args) throws IllegalAccessException {
         Check check = new Check();
+        check.sentence(1, "public final class BrambleMesh");
         Class<?> face = BrambleMesh.class;
         check.due("public and final", Modifier.isPublic(face.getModifiers()) && Modifier.isFinal(face.getModifiers()), true);
         check.due("one constructor", face.getDeclaredConstructors().length, 1);
         check.due("a public constructor", face.getConstructors().length, 1);
+        check.sentence(1, "The public face (its methods and their throws clauses)");
         TreeSet<String> methods = new TreeSet<>();
         TreeSet<String> publicNames = new TreeSet<>();
         for (Method method : face.getDeclaredMethods()) {
@@ -79,6 +81,7 @@ public final class FaceTest {
             boolean isHidden = Modifier.isPrivate(method.getModifiers());
             check.due("name of " + method, isHidden && publicNames.contains(method.getName()), false);
         }
+        check.sentence(1, "The constants");
         TreeSet<String> constants = new TreeSet<>();
         for (Field field : face.getDeclaredFields()) {
             if (!Modifier.isPrivate(field.getModifiers())) {
